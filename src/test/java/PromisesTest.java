@@ -1,160 +1,53 @@
-import java.util.function.LongSupplier;
-
 /** The document's promises one by one: ordinary inputs, the edges that it names, and wrong inputs. */
-public final class PromisesTest {
-
-    private static final int P = 2147483647;
-    private static final String ARGUMENT = "IllegalArgumentException";
-    private static final String STATE = "IllegalStateException";
-    private static final String INDEX = "IndexOutOfBoundsException";
-    private static final int[] NO_FILES = {-1, 1, 2, 3, Integer.MAX_VALUE, Integer.MIN_VALUE};
-    private static final int[] NO_KEEPERS = {-1, 4, Integer.MAX_VALUE, Integer.MIN_VALUE};
-    private static final int[] NO_FIELD_NUMBERS = {-1, P, Integer.MIN_VALUE};
-
-    private static int promise = 0;
-    private static int wrong = 0;
+public final class PromisesTest extends Checks {
 
     public static void main(String[] args) {
-        promise = 1;
+        about = "promise 1";
         aNewObject();
-        promise = 2;
+        about = "promise 2";
         key();
-        promise = 3;
+        about = "promise 3";
         word();
-        promise = 4;
+        about = "promise 4";
         file();
         fileEdges();
-        promise = 5;
+        about = "promise 5";
         place();
-        promise = 6;
+        about = "promise 6";
         lose();
-        promise = 7;
+        about = "promise 7";
         change();
-        promise = 8;
+        about = "promise 8";
         challenge();
-        promise = 9;
+        about = "promise 9";
         asked();
-        promise = 10;
+        about = "promise 10";
         tamper();
-        promise = 11;
+        about = "promise 11";
         judge();
-        promise = 12;
+        about = "promise 12";
         locate();
-        promise = 13;
+        about = "promise 13";
         found();
-        promise = 14;
+        about = "promise 14";
         repair();
         repairOfUnseenChanges();
         repairOfARowOfZeros();
-        promise = 15;
+        about = "promise 15";
         fetch();
         anyFourRowsGiveTheOthers();
-        promise = 16;
+        about = "promise 16";
         fetched();
-        promise = 17;
+        about = "promise 17";
         made();
-        promise = 18;
+        about = "promise 18";
         kept();
-        promise = 19;
+        about = "promise 19";
         rota();
-        promise = 20;
+        about = "promise 20";
         score();
-        System.out.println(wrong == 0 ? "all promises hold" : wrong + " faults");
-        if (wrong != 0) {
-            System.exit(1);
-        }
+        finish("all promises hold");
     }
-
-    // ---- what the tests share
-
-    private static void due(String call, long got, long want) {
-        if (got != want) {
-            wrong++;
-            System.out.println("promise " + promise + ": " + call + " answered " + got + ", due is " + want);
-        }
-    }
-
-    private static void due(String call, boolean got, boolean want) {
-        due(call, got ? 1 : 0, want ? 1 : 0);
-    }
-
-    private static void thrown(String call, String want, LongSupplier run) {
-        String got = "nothing";
-        try {
-            run.getAsLong();
-        } catch (RuntimeException e) {
-            got = e.getClass().getSimpleName();
-        }
-        if (!got.equals(want)) {
-            wrong++;
-            System.out.println("promise " + promise + ": " + call + " threw " + got + ", due is " + want);
-        }
-    }
-
-    /** As the document words it, on its own lines, so that a slip in the class is not made here too. */
-    private static long secret(long a, long b, long n) {
-        long x = a + n * 0x9E3779B97F4A7C15L;
-        for (int i = 0; i < 4; i++) {
-            x ^= x >>> 30;
-            x *= 0xBF58476D1CE4E5B9L;
-            x ^= x >>> 27;
-            x *= 0x94D049BB133111EBL;
-            x ^= x >>> 31;
-            x += b;
-        }
-        return (x >>> 33) % P;
-    }
-
-    private static long alpha(long a, long b, int file, int j) {
-        return secret(a, b, 64L * file + j);
-    }
-
-    private static long mask(long a, long b, int file, int row) {
-        return secret(a, b, 64L * file + 8 + row);
-    }
-
-    private static int bufferWord(int i) {
-        return (int) ((123456789L * (i + 3) * (i + 7)) % P);
-    }
-
-    /** Key 11, 22, a buffer full of great words, and file 0 of n words. */
-    private static AuditDesk deskWithFile(int n) {
-        AuditDesk desk = new AuditDesk();
-        desk.key(11, 22);
-        for (int i = 0; i < 64; i++) {
-            desk.word(i, bufferWord(i));
-        }
-        desk.file(n);
-        return desk;
-    }
-
-    private static AuditDesk placedDesk(int n, int... keepers) {
-        AuditDesk desk = deskWithFile(n);
-        for (int keeper : keepers) {
-            desk.place(0, keeper);
-        }
-        return desk;
-    }
-
-    private static void dueAsMade(AuditDesk desk, int keeper, int file, int rows) {
-        for (int row = 0; row < rows; row++) {
-            for (int j = 0; j < 5; j++) {
-                due("kept(" + keeper + ", " + file + ", " + row + ", " + j + ")",
-                        desk.kept(keeper, file, row, j), desk.made(file, row, j));
-            }
-            due("kept(" + keeper + ", " + file + ", " + row + ", 5)", desk.kept(keeper, file, row, 5), 0);
-        }
-    }
-
-    private static void dueTag(AuditDesk desk, long a, long b, int file, int row) {
-        long tag = mask(a, b, file, row);
-        for (int j = 0; j < 4; j++) {
-            tag = (tag + alpha(a, b, file, j) * desk.made(file, row, j)) % P;
-        }
-        due("made(" + file + ", " + row + ", 4) with the key " + a + ", " + b, desk.made(file, row, 4), tag);
-    }
-
-    // ---- the promises
 
     private static void aNewObject() {
         AuditDesk desk = new AuditDesk();
