@@ -971,6 +971,9 @@ public final class BoundariesTest extends Checks {
         for (int t : new int[] {-1, -2, -3, -4, MIN, MIN + 1}) {
             due("rota(" + t + ")", desk.rota(t), -1);
         }
+        AuditDesk one = placedDesk(1, 3);
+        due("rota(-1) of one", one.rota(-1), -1);
+        due("rota(the least) of one", one.rota(MIN), -1);
         due("rota(-1) of a new object", new AuditDesk().rota(-1), -1);
     }
 

@@ -295,13 +295,15 @@ public final class RefusalsTest extends Checks {
         return state;
     }
 
-    /** File 1 fails by its last group alone; its first one could be made again. */
+    /** File 1 fails by its last group alone; its first one could be made again. No two files have the same word 0. */
     private static State fullDesk() {
         State state = new State();
         state.name = "a desk with three files";
         state.desk = () -> {
             AuditDesk desk = placedDesk(64, 0, 1, 2, 3);
+            desk.word(0, 55);
             desk.file(17);
+            desk.word(0, 66);
             desk.file(1);
             for (int keeper = 0; keeper < 4; keeper++) {
                 desk.place(2, keeper);

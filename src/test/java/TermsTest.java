@@ -42,6 +42,7 @@ public final class TermsTest extends Checks {
         gatherTakesTheLeastKeeper();
         gatherFailsBelowFour();
         rowsOfAllKeepersAreEnough();
+        gatherTakesNothingOfAnotherFile();
         noneIsBelowZero();
         theCallsOfAnObject();
         finish("the boundaries of the terms hold");
@@ -773,6 +774,29 @@ public final class TermsTest extends Checks {
             }
         }
         thrown("fetch(0), four keepers having the same three rows", STATE, () -> same.fetch(0));
+    }
+
+    private static void gatherTakesNothingOfAnotherFile() {
+        about = "of these the group's words are worked out, by the rows' rule";
+        for (int low = 0; low < 4; low++) {
+            for (int high = low; high < 4; high++) {
+                AuditDesk desk = placedDesk(64, 1);
+                for (int i = 0; i < 16; i++) {
+                    desk.word(i, i + 1);
+                }
+                desk.file(16);
+                desk.place(1, 1);
+                desk.lose(1, 1, low);
+                desk.lose(1, 1, high);
+                for (int time = 0; time < 2; time++) {
+                    desk.fetch(0);
+                    desk.fetch(1);
+                    for (int i = 0; i < 16; i++) {
+                        due("fetched(" + i + ") without the rows " + low + " and " + high, desk.fetched(i), i + 1);
+                    }
+                }
+            }
+        }
     }
 
     // ---- the rest
