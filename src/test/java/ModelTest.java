@@ -94,6 +94,7 @@ public final class ModelTest {
         private final Model model;
         private final boolean weakKey;
         private final int harm;
+        private Object[] forgedTag;
 
         Calls(Random random, Model model, int run) {
             this.random = random;
@@ -103,6 +104,11 @@ public final class ModelTest {
         }
 
         Object[] next(int n) {
+            if (forgedTag != null) {
+                Object[] call = forgedTag;
+                forgedTag = null;
+                return call;
+            }
             if (n < 40 && random.nextInt(4) != 0) {
                 return new Object[] {"word", random.nextInt(66) - 1, fieldNumber()};
             }
@@ -121,10 +127,12 @@ public final class ModelTest {
         private Object[] harming() {
             int file = file();
             int keeper = keeper();
-            switch (random.nextInt(5)) {
+            switch (random.nextInt(6)) {
                 case 0:
                 case 1:
                     return new Object[] {"lose", keeper, file, row(file)};
+                case 4:
+                    return forging(file, keeper, row(file), random.nextInt(4), random.nextInt(PRIME));
                 case 2:
                     return new Object[] {"change", keeper, file, row(file), 0, 1 + random.nextInt(3)};
                 case 3:
@@ -132,6 +140,15 @@ public final class ModelTest {
                 default:
                     return new Object[] {"tamper", random.nextInt(7) - 1, fieldNumber()};
             }
+        }
+
+        /** A word is changed and, by the next call, its tag along with it, so that the row stays GOOD and is another. */
+        private Object[] forging(int file, int keeper, int row, int j, int d) {
+            if (model.isFile(file)) {
+                BigInteger along = model.files.get(file).alphas.get(j).multiply(Model.big(d)).mod(Model.P);
+                forgedTag = new Object[] {"change", keeper, file, row, 4, along.intValueExact()};
+            }
+            return new Object[] {"change", keeper, file, row, j, d};
         }
 
         private Object[] acting() {
